@@ -145,7 +145,7 @@ public final class RaftTown {
             case 3: return one.hold;
             case 4: return one.water;
             case 5: return one.goods;
-            case 6: return town.weightOf(raft);
+            case 6: return surveyed().weightAt(raft);
             case 7: return one.area();
             case 8: return leastOf(surveyed().partOf(raft));
             case 9: return one.sunk ? 1 : 0;
@@ -471,7 +471,6 @@ public final class RaftTown {
         if (ruling < 0) {
             return noted(NONE);
         }
-        judge.nameNothing();
         judge.nameRafts(town, a, b, net.partOf(a) | net.partOf(b));
         return noted(judge.comesTo(town.textOfLaw(ruling), TIE_CLAUSE));
     }
@@ -488,7 +487,7 @@ public final class RaftTown {
         int speaker = -1;
         int most = 0;
         for (int p = 0; p < town.personCount; p++) {
-            if (town.isAmong(p, whole)) {
+            if (town.personAt(p).isAmong(whole)) {
                 judge.namePerson(town, p, whole);
                 int value = judge.comesTo(town.textOfLaw(ruling), SPEAK_CLAUSE);
                 if (speaker < 0 || value > most) {
@@ -513,17 +512,10 @@ public final class RaftTown {
     }
 
     public int event(int i, int what) {
-        if (!within(i, 0, town.log.size - 1)) {
+        if (!within(i, 0, town.log.size - 1) || !within(what, 0, 3)) {
             return noted(BEYOND);
         }
-        Event one = town.log.eventAt(i);
-        switch (what) {
-            case 0: return one.what;
-            case 1: return one.number;
-            case 2: return one.day;
-            case 3: return one.known;
-            default: return noted(BEYOND);
-        }
+        return town.log.detail(i, what);
     }
 
     // ---- plans
@@ -859,7 +851,7 @@ public final class RaftTown {
         }
 
         int area() {
-            return isKind(kind) ? AREA[kind] : 0;
+            return kind >= 0 && kind < KINDS ? AREA[kind] : 0;
         }
 
         int ownWeight() {
@@ -892,7 +884,8 @@ public final class RaftTown {
         private int two;
         private int wedTo;
         private int thirst;
-        private boolean lost;
+        // A slot that is not yet a person is as if it were lost: on no raft.
+        private boolean lost = true;
 
         void take(Person other) {
             arrive(other.raft, other.born, other.one, other.two);
@@ -915,8 +908,13 @@ public final class RaftTown {
             return person >= 0 && (one == person || two == person);
         }
 
-        boolean sharesParent(Person other) {
-            return other.hasParent(one) || other.hasParent(two);
+        boolean isOn(int asked) {
+            return !lost && raft == asked;
+        }
+
+        /** Whether it is on one of a set of rafts. */
+        boolean isAmong(int set) {
+            return !lost && (set >> raft & 1) != 0;
         }
     }
 
@@ -961,27 +959,13 @@ public final class RaftTown {
         }
     }
 
-    private static final class Event {
-        private int what;
-        private int number;
-        private int day;
-        private int known;
-
-        void take(Event other) {
-            happen(other.what, other.number, other.day, other.known);
-        }
-
-        void happen(int whatItWas, int ofNumber, int onDay, int knownTo) {
-            what = whatItWas;
-            number = ofNumber;
-            day = onDay;
-            known = knownTo;
-        }
-    }
-
     /** The latest events and all laws, with the rafts that know them. */
     private static final class Log {
-        private final Event[] ring = new Event[EVENTS];
+        // Rings that begin at the first event that is led.
+        private final int[] whats = new int[EVENTS];
+        private final int[] numbers = new int[EVENTS];
+        private final int[] days = new int[EVENTS];
+        private final int[] knowers = new int[EVENTS];
         private int first;
         private int size;
         private final int[] lawText = new int[LAWS];
@@ -989,16 +973,11 @@ public final class RaftTown {
         private final int[] lawKnown = new int[LAWS];
         private int lawCount;
 
-        Log() {
-            for (int i = 0; i < EVENTS; i++) {
-                ring[i] = new Event();
-            }
-        }
-
         void take(Log other) {
-            for (int i = 0; i < EVENTS; i++) {
-                ring[i].take(other.ring[i]);
-            }
+            System.arraycopy(other.whats, 0, whats, 0, EVENTS);
+            System.arraycopy(other.numbers, 0, numbers, 0, EVENTS);
+            System.arraycopy(other.days, 0, days, 0, EVENTS);
+            System.arraycopy(other.knowers, 0, knowers, 0, EVENTS);
             first = other.first;
             size = other.size;
             System.arraycopy(other.lawText, 0, lawText, 0, LAWS);
@@ -1006,17 +985,33 @@ public final class RaftTown {
             lawCount = other.lawCount;
         }
 
-        Event eventAt(int i) {
-            return ring[Math.floorMod(first + i, EVENTS)];
+        private int placeOf(int i) {
+            int place = (first + i) % EVENTS;
+            return place < 0 ? 0 : place;
+        }
+
+        /** Of the i-th event: 0 what it was, 1 the number, 2 the day, 3 who knows it. */
+        int detail(int i, int asked) {
+            int place = placeOf(i);
+            switch (asked) {
+                case 0: return whats[place];
+                case 1: return numbers[place];
+                case 2: return days[place];
+                default: return knowers[place];
+            }
         }
 
         void add(int what, int number, int day, int known) {
             if (size < EVENTS) {
                 size++;
             } else {
-                first = Math.floorMod(first + 1, EVENTS);
+                first = (first + 1) % EVENTS;
             }
-            eventAt(size - 1).happen(what, number, day, known);
+            int place = placeOf(size - 1);
+            whats[place] = what;
+            numbers[place] = number;
+            days[place] = day;
+            knowers[place] = known;
         }
 
         int addLaw(int t, int day, int known) {
@@ -1032,10 +1027,9 @@ public final class RaftTown {
 
         /** All of a set of rafts get to know all that one of them does. */
         void tellOn(int set) {
-            for (int i = 0; i < size; i++) {
-                Event one = eventAt(i);
-                if ((one.known & set) != 0) {
-                    one.known |= set;
+            for (int i = 0; i < EVENTS; i++) {
+                if ((knowers[i] & set) != 0) {
+                    knowers[i] |= set;
                 }
             }
             for (int l = 0; l < lawCount && l < LAWS; l++) {
@@ -1047,8 +1041,8 @@ public final class RaftTown {
 
         int countKnown(int set) {
             int n = 0;
-            for (int i = 0; i < size; i++) {
-                if ((eventAt(i).known & set) != 0) {
+            for (int i = 0; i < EVENTS; i++) {
+                if ((knowers[i] & set) != 0) {
                     n++;
                 }
             }
@@ -1191,32 +1185,11 @@ public final class RaftTown {
             return -1;
         }
 
-        boolean isAboard(int person, int raft) {
-            Person one = personAt(person);
-            return !one.lost && one.raft == raft;
-        }
-
-        /** Whether a person is on one of a set of rafts. */
-        boolean isAmong(int person, int set) {
-            Person one = personAt(person);
-            return !one.lost && has(set, one.raft);
-        }
-
-        int weightOf(int raft) {
-            int weight = raftAt(raft).ownWeight();
-            for (int p = 0; p < personCount; p++) {
-                if (isAboard(p, raft)) {
-                    weight += 2;
-                }
-            }
-            return weight;
-        }
-
         private boolean areKin(int a, int b) {
             Person one = personAt(a);
             Person other = personAt(b);
-            return a != b && (one.hasParent(b) || other.hasParent(a) || one.sharesParent(other)
-                    || one.wedTo == b);
+            return a != b && (one.hasParent(b) || other.hasParent(a) || other.hasParent(one.one)
+                    || other.hasParent(one.two) || one.wedTo == b);
         }
 
         int kinOf(int person) {
@@ -1231,8 +1204,8 @@ public final class RaftTown {
 
         int personsOf(int set) {
             int aboard = 0;
-            for (int p = 0; p < personCount; p++) {
-                if (isAmong(p, set)) {
+            for (int p = 0; p < PERSONS; p++) {
+                if (persons[p].isAmong(set)) {
                     aboard |= 1 << p;
                 }
             }
@@ -1247,8 +1220,8 @@ public final class RaftTown {
         int kinBetween(int a, int b) {
             int there = personsOf(1 << b);
             int pairs = 0;
-            for (int p = 0; p < personCount; p++) {
-                if (isAboard(p, a)) {
+            for (int p = 0; p < PERSONS; p++) {
+                if (persons[p].isOn(a)) {
                     pairs += Integer.bitCount(kinOf(p) & there);
                 }
             }
@@ -1287,8 +1260,8 @@ public final class RaftTown {
 
         int countAlive() {
             int n = 0;
-            for (int p = 0; p < personCount; p++) {
-                if (!personAt(p).lost) {
+            for (int p = 0; p < PERSONS; p++) {
+                if (!persons[p].lost) {
                     n++;
                 }
             }
@@ -1428,8 +1401,15 @@ public final class RaftTown {
 
         private void sink(int raft, Net net) {
             int whole = net.partOf(raft);
+            int others = whole & ~(1 << raft);
             log.add(SUNK, raft, today, whole);
-            leave(raft, whole);
+            for (int p = 0; p < PERSONS; p++) {
+                if (persons[p].isOn(raft) && others != 0) {
+                    persons[p].raft = leastOf(others);
+                } else if (persons[p].isOn(raft)) {
+                    lose(p, whole);
+                }
+            }
             Raft one = raftAt(raft);
             spilt += one.water + one.goods;
             one.water = 0;
@@ -1441,19 +1421,6 @@ public final class RaftTown {
                 }
             }
             net.survey(this);
-        }
-
-        private void leave(int raft, int whole) {
-            int others = whole & ~(1 << raft);
-            for (int p = 0; p < personCount; p++) {
-                if (isAboard(p, raft)) {
-                    if (others != 0) {
-                        personAt(p).raft = leastOf(others);
-                    } else {
-                        lose(p, whole);
-                    }
-                }
-            }
         }
 
         /** Raft by raft, since all rafts of a part are in one cell. */
@@ -1479,9 +1446,15 @@ public final class RaftTown {
         void survey(Town town) {
             afloat = 0;
             for (int i = 0; i < RAFTS; i++) {
-                weight[i] = town.weightOf(i);
+                weight[i] = town.raftAt(i).ownWeight();
                 if (town.hasRaft(i) && !town.raftAt(i).sunk) {
                     afloat |= 1 << i;
+                }
+            }
+            for (int p = 0; p < PERSONS; p++) {
+                Person person = town.personAt(p);
+                if (!person.lost && within(person.raft, 0, RAFTS - 1)) {
+                    weight[person.raft] += 2;
                 }
             }
             all = 0;
@@ -1496,7 +1469,7 @@ public final class RaftTown {
             }
         }
 
-        private int weightAt(int raft) {
+        int weightAt(int raft) {
             return within(raft, 0, RAFTS - 1) ? weight[raft] : 0;
         }
 
@@ -1510,7 +1483,7 @@ public final class RaftTown {
             for (int round = 0; round < RAFTS; round++) {
                 int before = reached;
                 for (int r = 0; r < ROPES; r++) {
-                    if (has(set, r) && (ends[r] & reached) != 0) {
+                    if ((set >> r & 1) != 0 && (ends[r] & reached) != 0) {
                         reached |= ends[r];
                     }
                 }
@@ -1544,7 +1517,7 @@ public final class RaftTown {
         private int weigh(int set) {
             int sum = 0;
             for (int i = 0; i < RAFTS; i++) {
-                if (has(set, i)) {
+                if ((set >> i & 1) != 0) {
                     sum += weight[i];
                 }
             }
@@ -1768,7 +1741,7 @@ public final class RaftTown {
         private final int[] values = new int[OPEN_VALUES];
         private int open;
 
-        void nameNothing() {
+        private void nameNothing() {
             for (int n = 0; n < NAMES; n++) {
                 names[n] = 0;
             }
@@ -1781,10 +1754,12 @@ public final class RaftTown {
             names[1] = net.loadOf(rope, net.all, waves);
             names[2] = one.strength();
             names[3] = one.age;
-            nameRafts(town, one.one, one.two, net.partOf(one.one));
+            names[4] = town.kinBetween(one.one, one.two);
+            namePart(town, net.partOf(one.one));
         }
 
         void nameRafts(Town town, int a, int b, int whole) {
+            nameNothing();
             names[4] = town.kinBetween(a, b);
             namePart(town, whole);
         }
@@ -1994,7 +1969,7 @@ public final class RaftTown {
         }
 
         private int byteAt(int i) {
-            return within(i, 0, length - 1) && i < TAPE ? bytes[i] : 0;
+            return i >= 0 && i < length && i < TAPE ? bytes[i] : 0;
         }
 
         private void nextWord() {

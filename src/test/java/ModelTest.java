@@ -936,6 +936,33 @@ public final class ModelTest {
         }
     }
 
+    /** A town that stands for a while: many floats in one cell, many ropes, and a law. */
+    private static void settle() {
+        int floats = 3 + random.nextInt(8);
+        for (int i = 0; i < floats; i++) {
+            int kind = random.nextInt(6), planks = 5 + random.nextInt(90), hold = random.nextInt(60);
+            due("raft " + kind, x.raft(kind, 14, planks, hold), m.raft(kind, 14, planks, hold));
+            int n = random.nextInt(20);
+            due("load " + i, x.load(i, n, false), m.load(i, n, false));
+            int person = m.s.persons.size() - 1;
+            due("person " + i, x.person(i, -i, person, -1), m.person(i, -i, person, -1));
+        }
+        int strength = 10 + random.nextInt(80);
+        for (int i = 0; i < 60; i++) {
+            int a = random.nextInt(floats), b = random.nextInt(floats), k = random.nextInt(4), l = random.nextInt(4);
+            int st = Math.max(1, strength - random.nextInt(10));
+            due("tie " + a + " " + k + " " + b + " " + l + " " + st, x.tie(a, k, b, l, st), m.tie(a, k, b, l, st));
+        }
+        for (int i = 0; i < 6; i++) {
+            tell();
+            int t = random.nextInt(5), a = random.nextInt(floats);
+            due("force " + t + " " + a, x.force(t, a), m.force(t, a));
+        }
+        for (int i = 0; i < 60; i++) {
+            ask();
+        }
+    }
+
     /** All that can be asked, one by one: so an act that answered a finding has changed nothing. */
     private static void askAll() {
         for (int i = 0; i < 10; i++) for (int k = 0; k < 10; k++) due("raftIs " + i + " " + k, x.raftIs(i, k), m.raftIs(i, k));
@@ -950,10 +977,11 @@ public final class ModelTest {
         int runs = args.length > 0 ? Integer.parseInt(args[0]) : 400;
         int seeds = args.length > 1 ? Integer.parseInt(args[1]) : 1;
         for (int run = 0; run < runs; run++) {
-            random = new Random(1000003L * seeds + run);
+            random = new Random((1000003L * seeds + run) * 0x9E3779B97F4A7C15L);
             x = new RaftTown();
             m = new Model();
             story = new StringBuilder();
+            if (run % 8 == 0) settle();
             int first = random.nextInt(100);
             for (int i = 0; i < first; i++) build();
             for (int i = first; i < 400; i++) {

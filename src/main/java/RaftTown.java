@@ -1596,30 +1596,49 @@ public final class RaftTown {
             return true;
         }
 
-        /** Ropes of which each is the only way between its two ends. */
-        private int bridges() {
-            int set = 0;
+        /** Whether a rope is the only way between its two ends, if there were the ropes of a set alone. */
+        private boolean isBridge(int rope, int set) {
+            int pair = within(rope, 0, ROPES - 1) ? ends[rope] : 0;
+            return (reach(pair & -pair, set & ~(1 << rope)) & pair) != pair;
+        }
+
+        private int bridgesOf(int set) {
+            int bridges = 0;
             for (int r = 0; r < ROPES; r++) {
-                if (has(all, r) && (reach(ends[r] & -ends[r], all & ~(1 << r)) & ends[r]) != ends[r]) {
-                    set |= 1 << r;
+                if (has(set, r) && isBridge(r, set)) {
+                    bridges |= 1 << r;
                 }
             }
-            return set;
+            return bridges;
+        }
+
+        /** Ropes that hold in no set at all: where these are out, others may be bound to part, too. */
+        private int doomed(int waves) {
+            int doomed = 0;
+            for (int round = 0; round < ROPES; round++) {
+                int more = doomedOf(all & ~doomed, waves);
+                if (more == 0) {
+                    break;
+                }
+                doomed |= more;
+            }
+            return doomed;
         }
 
         /**
-         * Ropes that hold in no set: a part weighs no less than its raft at the rope, and a bridge
-         * stays one in each lesser set.
+         * Ropes of a set that hold in no part of it: a bridge stays one there, and has at least the
+         * lighter of its two rafts hang on it.
          */
-        private int doomed(int waves, int bridges) {
-            int set = 0;
+        private int doomedOf(int set, int waves) {
+            int doomed = 0;
             for (int r = 0; r < ROPES; r++) {
-                int leastHang = has(bridges, r) ? lighter[r] : lighter[r] / 2;
-                if (has(all, r) && waves * leastHang / 8 > strength[r]) {
-                    set |= 1 << r;
+                boolean holdsAsBridge = waves * lighter[r] / 8 <= strength[r];
+                if (has(set, r) && !holdsAsBridge
+                        && (waves * (lighter[r] / 2) / 8 > strength[r] || isBridge(r, set))) {
+                    doomed |= 1 << r;
                 }
             }
-            return set;
+            return doomed;
         }
 
         private int ropesOf(int whole) {
@@ -1635,9 +1654,9 @@ public final class RaftTown {
         /** The fewest ropes that join the part of a raft (given as a bit) and hold; -1: there are none. */
         int fewestLashings(int raft, int waves) {
             int whole = reach(raft, all);
-            int bridges = bridges();
-            int lashings = ropesOf(whole) & ~doomed(waves, bridges);
-            int needed = bridges & ropesOf(whole);
+            int ropes = ropesOf(whole);
+            int lashings = ropes & ~doomed(waves);
+            int needed = bridgesOf(ropes);
             int fewest = ROPES + 1;
             int best = -1;
             for (int set = 0; set <= lashings; set++) {
@@ -1658,7 +1677,7 @@ public final class RaftTown {
 
         /** The ropes to cut so that the fewest are lost; sets that can't better the best are passed over. */
         int bestCuts(int waves) {
-            int doomed = doomed(waves, bridges());
+            int doomed = doomed(waves);
             int fewest = ROPES + 1;
             int best = 0;
             for (int cuts = 0; cuts <= all && fewest > Integer.bitCount(doomed); cuts++) {

@@ -21,6 +21,13 @@ public final class EdgesTest {
         "BEYOND", "MISSING", "SIZE", "KIND", "FULL", "NONE", "TAKEN", "APART", "BARRED");
     private static final int MOST_CALLS = 512;
     private static final Map<String, Method> FACE = new HashMap<>();
+    private static final String[] MORE = {
+        "raft(1,14,60,60)", "raft(1,14,60,60)", "raft(1,14,60,60)", "person(0,-3,-1,-1)", "person(1,-4,-1,-1)",
+        "load(0,2,false)", "load(1,2,false)", "tell(4,'tie 1;cut 1;speak 1;')", "force(4,0)", "force(4,1)",
+        "tie(1,3,2,3,60)", "force(4,0)", "tape('tie ')",
+        "sheet(0,8,4) put(0,0,1) put(0,1,3)", "sheet(1,16,3) put(1,1,2)", "sheet(2,32,2) put(2,1,1)", "sheet(3,8,1)",
+        "image()",
+    };
 
     private static int wrong = 0;
     private static int answers = 0;
@@ -274,21 +281,33 @@ public final class EdgesTest {
         }
     }
 
+    /** A FLOAT that is not SUNK, if there is one. */
+    private static int afloat(RaftTown x) {
+        for (int i = 0; i < 10; i++) {
+            if (x.part(i) >= 0) {
+                return i;
+            }
+        }
+        return 0;
+    }
+
     private static void askTape(RaftTown x, Answers to) {
+        int raft = afloat(x);
         to.add(x.feed(1, ' '));
         to.add(x.text(4));
-        to.add(x.force(4, 0));
+        to.add(x.force(4, raft));
         for (int i = 0; i < 12; i++) to.add(x.may(i, 3));
-        for (int i = 0; i < 10; i++) to.add(x.must(0, i));
-        to.add(x.speaks(0));
+        for (int i = 0; i < 10; i++) to.add(x.must(raft, i));
+        to.add(x.speaks(raft));
     }
 
     private static void askTexts(RaftTown x, Answers to) {
+        int raft = afloat(x);
         for (int t = 0; t < 5; t++) {
-            to.add(x.force(t, 0));
+            to.add(x.force(t, raft));
             for (int i = 0; i < 12; i++) to.add(x.may(i, 5));
-            for (int i = 0; i < 10; i++) to.add(x.must(0, i));
-            to.add(x.speaks(0));
+            for (int i = 0; i < 10; i++) to.add(x.must(raft, i));
+            to.add(x.speaks(raft));
         }
     }
 
@@ -332,10 +351,10 @@ public final class EdgesTest {
         return probes;
     }
 
-    private static Answers probed(List<Call> calls, int until, Call last, Probe probe) {
+    private static Answers probed(List<Call> calls, Call last, Probe probe) {
         RaftTown x = new RaftTown();
-        for (int i = 0; i < until; i++) {
-            calls.get(i).on(x);
+        for (Call call : calls) {
+            call.on(x);
         }
         int before = x.count(7);
         if (last != null) {
@@ -346,18 +365,44 @@ public final class EdgesTest {
         }
         Answers to = new Answers();
         probe.on(x, to);
+        if (calls.size() + 2 + to.size > MOST_CALLS) {
+            complain("too many calls to ask whether anything changed");
+        }
         return to;
+    }
+
+    private static int answerBehind(List<Call> calls, Call last) {
+        RaftTown x = new RaftTown();
+        for (Call call : calls) {
+            call.on(x);
+        }
+        return last.on(x);
+    }
+
+    /** More that could be changed: each as far as the call is still refused in the same way behind it. */
+    private static List<Call> enriched(List<Call> calls, Call last) {
+        List<Call> rich = new ArrayList<>(calls);
+        for (String more : MORE) {
+            List<Call> richer = new ArrayList<>(rich);
+            richer.addAll(new Reader(more).run());
+            if (answerBehind(richer, last) == last.due) {
+                rich = richer;
+            }
+        }
+        return rich;
     }
 
     /** A call that is refused, as the one at a place of a run, leaves all as it was. */
     private static void changesNothing(String where, List<Call> calls, int place) {
         refusals++;
+        Call last = calls.get(place);
+        List<Call> ahead = calls.subList(0, place);
+        List<Call> rich = enriched(ahead, last);
         int n = 0;
         for (Probe probe : probes()) {
-            Answers without = probed(calls, place, null, probe);
-            Answers with = probed(calls, place, calls.get(place), probe);
-            if (!Arrays.equals(without.row, with.row)) {
-                complain(where + "\n  " + calls.get(place) + " was refused, but changed something (probe " + n + ")");
+            if (!Arrays.equals(probed(ahead, null, probe).row, probed(ahead, last, probe).row)
+                    || !Arrays.equals(probed(rich, null, probe).row, probed(rich, last, probe).row)) {
+                complain(where + "\n  " + last + " was refused, but changed something (probe " + n + ")");
                 return;
             }
             n++;

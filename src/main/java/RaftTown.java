@@ -1670,26 +1670,38 @@ public final class RaftTown {
             return best;
         }
 
+        /** How many ropes the greatest set that holds has. */
+        private int mostKept(int ropes, int waves) {
+            int most = 0;
+            for (int set = ropes; set > 0; set--) {
+                int n = Integer.bitCount(set);
+                if ((set & ~ropes) == 0 && n > most && holds(set, waves)) {
+                    most = n;
+                }
+            }
+            return most;
+        }
+
+        /** How many ropes are lost if some are cut, counted no further than a limit. */
         int lostBy(int cuts, int waves, int limit) {
             int n = Integer.bitCount(cuts);
             return n + countParting(all & ~cuts, waves, limit - n);
         }
 
-        /** The ropes to cut so that the fewest are lost; sets that can't better the best are passed over. */
+        /**
+         * The ropes to cut so that the fewest are lost. What is left behind waves holds, and what holds is
+         * left if all others are cut: so the fewest are those beside the greatest set that holds.
+         */
         int bestCuts(int waves) {
             int doomed = doomed(waves);
-            int fewest = ROPES + 1;
-            int best = 0;
-            for (int cuts = 0; cuts <= all && fewest > Integer.bitCount(doomed); cuts++) {
-                if ((cuts & ~all) == 0 && Integer.bitCount(cuts | doomed) < fewest) {
-                    int lost = lostBy(cuts, waves, fewest);
-                    if (lost < fewest) {
-                        fewest = lost;
-                        best = cuts;
-                    }
+            int fewest = Integer.bitCount(all) - mostKept(all & ~doomed, waves);
+            for (int cuts = 0; cuts < all; cuts++) {
+                if ((cuts & ~all) == 0 && Integer.bitCount(cuts | doomed) <= fewest
+                        && lostBy(cuts, waves, fewest + 1) == fewest) {
+                    return cuts;
                 }
             }
-            return best;
+            return all;
         }
 
         /** The first place at which a row fails to prove that a set holds; -1: it proves it. */

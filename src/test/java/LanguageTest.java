@@ -1,22 +1,19 @@
 import java.io.IOException;
+import java.lang.reflect.Array;
 import java.lang.reflect.Constructor;
 import java.lang.reflect.Field;
 import java.lang.reflect.Method;
 import java.lang.reflect.Modifier;
 import java.nio.file.Files;
 import java.nio.file.Path;
+import java.util.IdentityHashMap;
+import java.util.Map;
 import java.util.TreeSet;
 import java.util.regex.Matcher;
 import java.util.regex.Pattern;
 
-/** The face of the class, and those rules of LANGUAGE.md that can be seen without much reading. */
+/** The face of the class, those rules of LANGUAGE.md that can be seen without much reading, and the room. */
 public final class LanguageTest {
-    private static final String FACE =
-        "stream(III) raft(IIII) as(II) raftIs(II) load(IIZ) trade(IIIZ) person(IIII) wed(II) move(II) personIs(II) "
-        + "tie(IIIII) cut(I) rope(II) bears(II) parts() part(I) worst(II) day(II) days(II) lasts(I) feed(IJ) text(I) "
-        + "force(II) law(I) may(II) must(II) speaks(I) events(I) event(II) lash(II) storm(IZ) proves(III) patch(II) "
-        + "tow(II) sheet(III) put(III) copy(IIIII) image() restore() count(I)";
-
     private static final String[] BARRED = {
         "\\b(throw|throws|try|catch|synchronized|assert|import|package|protected|instanceof)\\b",
         "->", "::", "\\w+Exact\\b", "\\bSystem\\.(?!arraycopy\\b)", "\\bnew Object\\b", "\\b(double|float)\\b",
@@ -33,13 +30,25 @@ public final class LanguageTest {
         }
     }
 
-    private static void face() {
+    /** The calls of the document, as name(IJZ). */
+    private static TreeSet<String> documentFace() throws IOException {
         TreeSet<String> due = new TreeSet<>();
+        String doc = Files.readString(Path.of("../shared/DOC.md"));
+        Matcher m = Pattern.compile("(?m)^    public int (\\w+)\\((.*)\\);$").matcher(doc);
+        while (m.find()) {
+            due.add(m.group(1) + "(" + m.group(2).replaceAll("int \\w+", "I").replaceAll("long \\w+", "J")
+                .replaceAll("boolean \\w+", "Z").replace(", ", "") + ")");
+        }
+        return due;
+    }
+
+    private static void face() throws IOException {
+        TreeSet<String> due = documentFace();
         TreeSet<String> names = new TreeSet<>();
-        for (String one : FACE.split(" ")) {
-            due.add(one);
+        for (String one : due) {
             names.add(one.substring(0, one.indexOf('(')));
         }
+        claim(due.size() == 40, "the document has 40 calls");
         TreeSet<String> found = new TreeSet<>();
         for (Method m : RaftTown.class.getDeclaredMethods()) {
             if (Modifier.isPublic(m.getModifiers())) {
@@ -87,9 +96,75 @@ public final class LanguageTest {
         }
     }
 
-    public static void main(String[] args) throws IOException {
+    private static void lengths() throws IOException {
+        int begun = -1;
+        int at = 0;
+        for (String line : Files.readAllLines(Path.of("src/main/java/RaftTown.java"))) {
+            at++;
+            String bare = line.replaceAll("^    (    )?", "");
+            if (bare.matches("[a-zA-Z].*\\) \\{")) {
+                begun = at;
+            } else if (bare.equals("}") && begun >= 0) {
+                claim(at - begun <= 60, "the method at line " + begun + " has sixty lines at most");
+                begun = -1;
+            }
+        }
+    }
+
+    // ---- the room
+
+    private static int objects = 0;
+    private static int elements = 0;
+
+    private static void weigh(Object one, Map<Object, Boolean> seen) throws IllegalAccessException {
+        if (one == null || seen.put(one, true) != null) {
+            return;
+        }
+        objects++;
+        if (one.getClass().isArray()) {
+            elements += Array.getLength(one);
+            if (one instanceof Object[]) {
+                for (Object inside : (Object[]) one) {
+                    weigh(inside, seen);
+                }
+            }
+            return;
+        }
+        for (Field f : one.getClass().getDeclaredFields()) {
+            if (!Modifier.isStatic(f.getModifiers())) {
+                elements++;
+                f.setAccessible(true);
+                if (!f.getType().isPrimitive()) {
+                    weigh(f.get(one), seen);
+                }
+            }
+        }
+    }
+
+    /** All objects of a run live in one room, so a town takes a small part of it, and no call takes more. */
+    private static void room() throws IOException, IllegalAccessException {
+        RaftTown x = new RaftTown();
+        weigh(x, new IdentityHashMap<>());
+        claim(objects <= 200, "a town has 200 objects at most: " + objects);
+        claim(elements <= 4000, "a town has 4000 fields and elements at most: " + elements);
+        String constructorEnd = "";
+        for (String line : Files.readAllLines(Path.of("src/main/java/RaftTown.java"))) {
+            if (line.matches(" +(public )?(RaftTown|Town)\\(\\) \\{")) {
+                constructorEnd = line.replaceAll("\\S.*", "}");
+            } else if (line.equals(constructorEnd)) {
+                constructorEnd = "";
+            }
+            boolean makes = line.matches("[^/]*\\bnew [A-Za-z].*");
+            boolean mayMake = !constructorEnd.isEmpty() || line.matches(" +private final \\S+ \\w+ = new .*");
+            claim(!makes || mayMake, "nothing is made by a call: " + line.trim());
+        }
+    }
+
+    public static void main(String[] args) throws IOException, IllegalAccessException {
         face();
         words();
+        lengths();
+        room();
         System.out.println(wrong == 0 ? "the class keeps to its face and its language" : wrong + " claims fail");
         if (wrong != 0) {
             System.exit(1);

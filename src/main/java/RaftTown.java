@@ -1976,7 +1976,11 @@ public final class RaftTown {
                 return false;
             }
             next();
-            return readOr(depth + 1) && pass(CLOSE);
+            if (!readOr(depth + 1) || token != CLOSE) {
+                return false;
+            }
+            next();
+            return true;
         }
 
         // ---- tokens

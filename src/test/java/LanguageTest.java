@@ -97,18 +97,21 @@ public final class LanguageTest {
     }
 
     private static void lengths() throws IOException {
-        int begun = -1;
+        int begun = 0;
         int at = 0;
+        String end = "not begun";
         for (String line : Files.readAllLines(Path.of("src/main/java/RaftTown.java"))) {
             at++;
-            String bare = line.replaceAll("^    (    )?", "");
-            if (bare.matches("[a-zA-Z].*\\) \\{")) {
+            if (line.matches(" +((private|public|static) )*[a-z]\\w*(\\[\\])? \\w+\\(.*") && line.endsWith("{")
+                    && !line.contains("return ")) {
                 begun = at;
-            } else if (bare.equals("}") && begun >= 0) {
-                claim(at - begun <= 60, "the method at line " + begun + " has sixty lines at most");
-                begun = -1;
+                end = line.replaceAll("\\S.*", "}");
+            } else if (line.equals(end)) {
+                claim(at - begun <= 60, "the method at line " + begun + " has sixty lines at most: " + (at - begun));
+                end = "not begun";
             }
         }
+        claim(begun > 0, "methods are found");
     }
 
     // ---- the room
